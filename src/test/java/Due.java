@@ -1,0 +1,40 @@
+/** Compares answers with those that are due, prints every wrong one, and ends a test with exit code 1 if there was one. */
+final class Due {
+    private int wrong = 0;
+    private int seen = 0;
+    private String part = "";
+
+    void part(String name) {
+        part = name;
+    }
+
+    void is(String call, long got, long want) {
+        seen++;
+        if (got != want) {
+            wrong++;
+            System.out.println(part + ": " + call + " answered " + got + ", due is " + want);
+        }
+    }
+
+    void isTrue(String what, boolean holds) {
+        is(what, holds ? 1 : 0, 1);
+    }
+
+    void end() {
+        System.out.println(wrong == 0 ? seen + " answers are as due" : wrong + " of " + seen + " answers are not as due");
+        if (wrong != 0) {
+            System.exit(1);
+        }
+    }
+
+    static void type(NightGarrison x, String text) {
+        for (int i = 0; i < text.length(); i++) {
+            x.feed(text.charAt(i));
+        }
+    }
+
+    static int law(NightGarrison x, String text) {
+        type(x, text);
+        return x.law();
+    }
+}
