@@ -1479,14 +1479,14 @@ public final class NightGarrison {
 
         /** The body of a KIND, or of the next one above that has one. */
         private int run(int kind, int act, int x, int depth) {
-            if (depth > DEEPEST) {
+            if (depth > DEEPEST || !within(kind, 0, KINDS - 1)) {
                 return 0;
             }
             int at = kind;
             for (int i = 0; i < KINDS && at > SAUCER && OWN[at * ACTS + act] == 0; i++) {
                 at = ABOVE[at];
             }
-            int which = at >= SAUCER && at < KINDS ? OWN[at * ACTS + act] : 0;
+            int which = OWN[at * ACTS + act];
             if (ran < TRACED) {
                 trace[ran] = which;
             }
