@@ -219,6 +219,25 @@ public final class DeedTest {
         }
         due.is("of(7, 0)", x.of(7, 0), 50);
         due.is("redo()", x.redo(), -5);
+        unlikeOnes();
+    }
+
+    /** Fifty changes, no two of one number: the first ten can't be undone. */
+    private static void unlikeOnes() {
+        NightGarrison x = new NightGarrison();
+        for (int i = 0; i < 50; i++) {
+            x.mend(i / 2, i % 2, 1 + i % 9);
+        }
+        for (int i = 49; i >= 10; i--) {
+            due.is("undo()", x.undo(), i - 10);
+            due.is("of behind undo", x.of(i / 2, i % 2), 0);
+            due.is("of ahead of it", x.of((i - 1) / 2, (i - 1) % 2), 1 + (i - 1) % 9);
+        }
+        due.is("undo()", x.undo(), -5);
+        for (int i = 10; i < 50; i++) {
+            due.is("redo()", x.redo(), 49 - i);
+            due.is("of behind redo", x.of(i / 2, i % 2), 1 + i % 9);
+        }
     }
 
     private static void deedsAreNoChanges() {

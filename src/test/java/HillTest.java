@@ -130,6 +130,10 @@ public final class HillTest {
         due.is("byTurns(521, 0): the dark's row is the same one", x.byTurns(521, 0), 35);
         due.is("byTurns(221, 0)", x.byTurns(221, 0), 35);
         due.is("byTurns(221, 1)", x.byTurns(221, 1), 2);
+        for (int r = 12; r < 18; r++) {
+            x.mend(r, 3, r < 17 ? 1 : 0);
+        }
+        due.is("byTurns(211, 1): one is left", x.byTurns(211, 1), 5);
         int[] wrong = {-1, -100, 0, 9, 40, 90, 17, 19, 210 + 7, 610, 1010, Integer.MIN_VALUE, Integer.MAX_VALUE};
         for (int ynt : wrong) {
             due.is("byTurns(" + ynt + ", 0)", x.byTurns(ynt, 0), -1);
@@ -172,6 +176,7 @@ public final class HillTest {
         due.is("drawn: below MOTHS", x.drawn(seed, 10100 + count + 1, -1), 1);
         due.is("drawn: not below MOTHS", x.drawn(seed, 10100 + count, -1), 0);
         due.is("drawn: never", x.drawn(seed, 302400, -1), 0);
+        eachDraw(x);
         int second = z * 1103515245 + 12345;
         int other = (second >>> 8) % 36;
         due.is("drawn: two nights, the city as now, the draws go on", x.drawn(seed, 20112, -1), 2);
@@ -182,6 +187,17 @@ public final class HillTest {
         x.mend(1, 0, 1);
         due.is("drawn: a dark one is so at each end", x.drawn(5, 300500, 7), 30 * x.later(5, 7, 0));
         due.is("drawn: hours pass in each night", x.drawn(5, 301200, -1), 30 * x.dark(12, 0));
+    }
+
+    private static void eachDraw(NightGarrison x) {
+        for (int seed = -20; seed < 20; seed++) {
+            int z = seed * 1103515245 + 12345;
+            for (int moths = 0; moths <= 12; moths++) {
+                int comes = (z >>> 16) % 12 < moths ? 1 : 0;
+                due.is("drawn(" + seed + ", .., -1)", x.drawn(seed, 10100 + moths, -1), comes);
+                due.is("drawn(" + seed + ", .., 0)", x.drawn(seed, 10100 + moths, 0), (z >>> 8) % 36 == 0 ? comes : 0);
+            }
+        }
     }
 
     private static void wrongDraws() {

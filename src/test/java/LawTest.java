@@ -11,6 +11,8 @@ public final class LawTest {
         depth();
         values();
         linesCount();
+        theEdge();
+        waxInTheLaw();
         aFaultLeavesTheLaw();
         manyTexts();
         due.end();
@@ -102,7 +104,7 @@ public final class LawTest {
             {"d", 1}, {"l", 2}, {"g", 7}, {"c", 1}, {"w", 5}, {"h", 9}, {"h-8", 2}, {"0-1", 0}, {"99", 9}, {"9", 9}, {"10", 9},
             {"d+l*2", 5}, {"(d+l)*2", 6}, {"g-l-d", 4}, {"g-(l-d)", 6}, {"g/l", 3}, {"g%l", 1}, {"-g/l+9", 6}, {"-g%l+9", 8},
             {"g/0+3", 3}, {"g%0+3", 3}, {"8/2/2", 2}, {"9%5*2", 8}, {"2*9%5", 3}, {"g|0", 1}, {"0|0", 0}, {"0|g", 1}, {"g&l", 1},
-            {"g&0", 0}, {"5-3|0", 1}, {"l<g", 1}, {"g<l", 0}, {"g<g", 0}, {"g=7", 1}, {"g=l", 0}, {"g>l", 1}, {"l>g", 0},
+            {"g&0", 0}, {"5-3|0", 1}, {"l<g", 1}, {"g<l", 0}, {"g<g", 0}, {"g=7", 1}, {"g=l", 0}, {"g>l", 1}, {"l>g", 0}, {"g>g", 0},
             {"!g", 0}, {"!0", 1}, {"!!g", 1}, {"!0+4", 5}, {"--g", 7}, {"9--g+0", 9}, {"2--3", 5}, {"2*-3+9", 3}, {"!d+2", 2},
             {"1<2&3>2", 1}, {"0&0|1", 1}, {"1|1&0", 1}, {"1=1|0", 1}, {"(1|2)+(3&4)", 2}, {"0003+0004", 7},
             {"9999*9999*21>0", 1}, {"9999*9999*22>0", 0}, {"9999*9999*22<0", 1}};
@@ -131,7 +133,7 @@ public final class LawTest {
         NightGarrison x = furnished();
         Object[][] rows = {
             {"0?5;3", 3}, {"1?5;3", 5}, {"0?5", 0}, {"2;3", 2}, {"0;3", 0}, {"0?1;0?2;0?3", 0}, {"0?1;-1?2;3", 2},
-            {"g<l?1;l<g?d+6;4", 7}, {"0?1;3;1?4", 3}, {"d|l?0;9", 0}};
+            {"g<l?1;l<g?d+6;4", 7}, {"0?1;3;1?4", 3}, {"d|l?0;9", 0}, {"0?1;".repeat(29) + "7", 7}, {"0?1;".repeat(29) + "1?6", 6}};
         for (Object[] row : rows) {
             due.is("law() of " + row[0], Due.law(x, (String) row[0]), 1);
             due.is("press(8) by " + row[0], x.press(8), (Integer) row[1]);
@@ -147,6 +149,38 @@ public final class LawTest {
         due.is("press(2): a dark one has its wax", x.press(2), 4);
         due.is("law()", Due.law(x, "l"), 1);
         due.is("press(1): a dark one is not lit", x.press(1), 1);
+    }
+
+    private static void theEdge() {
+        due.part("over the edge");
+        NightGarrison x = new NightGarrison();
+        due.is("law()", Due.law(x, "d"), 1);
+        for (int r = 0; r < 36; r++) {
+            int edges = (r < 6 ? 1 : 0) + (r > 29 ? 1 : 0) + (r % 6 == 0 ? 1 : 0) + (r % 6 == 5 ? 1 : 0);
+            due.is("press(" + r + ")", x.press(r), edges);
+        }
+        for (int r = 0; r < 36; r++) {
+            x.mend(r, 3, 1);
+        }
+        for (int r = 0; r < 36; r++) {
+            due.is("press(" + r + ") when all is dark", x.press(r), 4);
+        }
+    }
+
+    /** The same room but for its wax: no answer may stand for another. */
+    private static void waxInTheLaw() {
+        due.part("wax in the law");
+        NightGarrison x = furnished();
+        due.is("law()", Due.law(x, "w"), 1);
+        for (int w : new int[] {5, 1, 0, 2, 1, 9, 0}) {
+            x.mend(8, 0, w);
+            due.is("press(8)", x.press(8), w);
+        }
+        due.is("law()", Due.law(x, "9-w"), 1);
+        due.is("press(8)", x.press(8), 9);
+        x.mend(8, 0, 1);
+        due.is("press(8)", x.press(8), 8);
+        due.is("later(2, 8, 0): without wax it falls", x.later(2, 8, 0), 1);
     }
 
     private static void aFaultLeavesTheLaw() {

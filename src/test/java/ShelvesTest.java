@@ -115,6 +115,7 @@ public final class ShelvesTest {
         x.row(5, 0, 3);
         due.is("taken(5, 0)", x.taken(5, 0), -12);
         x.keep(5, 0);
+        due.is("taken(5, 0): a saucer where a row was", x.taken(5, 0), 4);
         due.is("element(5, 0): the row is gone", x.element(5, 0), Long.MIN_VALUE);
     }
 
@@ -135,8 +136,10 @@ public final class ShelvesTest {
         due.is("row(6, 0, 1)", x.row(6, 0, 1), -1);
         due.is("row(6, 0, -1): BAD first", x.row(6, 0, -1), -1);
         due.is("row(0, 5, -1): BAD first", x.row(0, 5, -1), -1);
+        due.is("put(0, 0, 3)", x.put(0, 0, 3), 1);
         due.is("row(0, 0, 60)", x.row(0, 0, 60), 1);
         due.is("element(0, 59): a new row", x.element(0, 59), 0);
+        due.is("element(0, 0): a new row", x.element(0, 0), 0);
         due.is("row(0, 3, 0)", x.row(0, 3, 0), 1);
         due.is("put(0, 0, 1)", x.put(0, 0, 1), -13);
         due.is("row(0, 3, 2)", x.row(0, 3, 2), 1);

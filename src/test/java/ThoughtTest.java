@@ -122,6 +122,14 @@ public final class ThoughtTest {
         due.is("map(48)", x.map(48), 0);
         due.is("later(48, 35, 0)", x.later(48, 35, 0), 0);
         due.is("dark(48, 1)", x.dark(48, 1), 0);
+        x.mend(35, 3, 1);
+        x.mend(35, 2, 1);
+        x.mend(35, 0, 3);
+        due.is("later(0, 35, 0)", x.later(0, 35, 0), 1);
+        due.is("later(0, 35, 1)", x.later(0, 35, 1), 3);
+        due.is("dark(0, 0)", x.dark(0, 0), 1);
+        due.is("dark(0, 1)", x.dark(0, 1), 1);
+        due.is("map(0)", x.map(0), 1L << 35);
     }
 
     private static void fallsAndStill() {
@@ -161,6 +169,10 @@ public final class ThoughtTest {
         w.mend(0, 4, 1);
         Due.law(w, "d=0&l=2");
         due.is("still(): got back, then it falls, and so on", w.still(), -2);
+        w.mend(6, 0, 49);
+        due.is("still(): the light is out behind 49", w.still(), -2);
+        w.mend(6, 0, 48);
+        due.is("still(): behind 48", w.still(), 48);
     }
 
     private static void enough() {
@@ -316,10 +328,51 @@ public final class ThoughtTest {
         due.is("round(14, 1, 0): stays", z.round(14, 1, 0), 4);
         z.mend(14, 0, 50);
         due.is("round(14, 4, -1): wax that is more stays", z.round(14, 4, -1), 35);
+        theTaper();
+        sides();
         int[][] wrong = {{-1, 0, -1}, {36, 0, -1}, {0, -1, -1}, {0, 5, -1}, {0, 0, 0}, {0, 2, 2}, {0, 2, -2}, {0, 4, 4}};
         for (int[] r : wrong) {
             due.is("round", x.round(r[0], r[1], r[2]), -1);
         }
+    }
+
+    /** All fall in the fourth hour alone: 6 wax lasts three hours in a draught, four without. */
+    private static void theTaper() {
+        NightGarrison x = new NightGarrison();
+        Due.law(x, "h=3?9");
+        due.is("round(14, 4, -1): four are lit", x.round(14, 4, -1), 32);
+        for (int r = 0; r < 36; r++) {
+            x.mend(r, 1, 5);
+        }
+        due.is("round(14, 4, -1): the first is out", x.round(14, 4, -1), 33);
+        for (int r = 0; r < 36; r++) {
+            x.mend(r, 3, r == 14 || r == 17 ? 0 : 1);
+        }
+        x.mend(14, 0, 50);
+        due.is("round(13, 4, -1): past a light that has more wax", x.round(13, 4, -1), 34);
+        for (int k = 0; k < 4; k++) {
+            due.is("round(13, 4, k)", x.round(13, 4, k), 1);
+        }
+    }
+
+    private static void sides() {
+        int[][] rows = {{13, 12, 3}, {16, 17, 1}, {8, 2, 0}, {27, 33, 2}, {12, 12, 4}, {17, 17, 4}, {1, 0, 3}, {34, 35, 1}};
+        for (int[] r : rows) {
+            NightGarrison x = new NightGarrison();
+            Due.law(x, "9");
+            for (int room = 0; room < 36; room++) {
+                x.mend(room, 3, room == r[1] ? 0 : 1);
+            }
+            due.is("round(" + r[0] + ", 1, -1)", x.round(r[0], 1, -1), 35);
+            due.is("round(" + r[0] + ", 1, 0)", x.round(r[0], 1, 0), r[2]);
+        }
+        NightGarrison y = new NightGarrison();
+        Due.law(y, "9");
+        for (int room = 0; room < 36; room++) {
+            y.mend(room, 3, room == 12 || room == 18 ? 0 : 1);
+        }
+        due.is("round(17, 1, -1): right of it is no next row", y.round(17, 1, -1), 36);
+        due.is("round(11, 1, -1)", y.round(11, 1, -1), 36);
     }
 
     private static void nothingIsChanged() {
