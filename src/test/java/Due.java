@@ -1,11 +1,18 @@
 /** Compares answers with those that are due, prints every wrong one, and ends a test with exit code 1 if there was one. */
 final class Due {
+    private static final String DOC = Doc.text();
     private int wrong = 0;
     private int seen = 0;
     private String part = "";
 
     void part(String name) {
         part = name;
+    }
+
+    /** Names the part by a sentence of the document, which must stand there word for word. */
+    void sentence(String words) {
+        part = words;
+        isTrue("the sentence stands in the document", DOC.contains(words));
     }
 
     void is(String call, long got, long want) {

@@ -1,0 +1,19 @@
+import java.io.IOException;
+import java.nio.file.Files;
+import java.nio.file.Path;
+
+/** The document's own words, so that a test can name the sentence that it stands for. */
+final class Doc {
+    private static final Path FILE = Path.of("../shared/DOC.md");
+
+    private Doc() {
+    }
+
+    static String text() {
+        try {
+            return Files.readString(FILE);
+        } catch (IOException e) {
+            return "";
+        }
+    }
+}
