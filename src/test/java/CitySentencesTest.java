@@ -18,6 +18,7 @@ public final class CitySentencesTest {
         notFalling();
         gotBack();
         gotBackAtTheEdge();
+        gotBackAnywhere();
         burning();
         waxOfOneThatFalls();
         theClock();
@@ -246,6 +247,20 @@ public final class CitySentencesTest {
         due.is("later(1, 12, 0): 11 and 17 are not beside 12", row.later(1, 12, 0), 1);
     }
 
+    private static void gotBackAnywhere() {
+        for (int room = 0; room < 36; room++) {
+            int light = room % 6 < 5 ? room + 1 : room - 1;
+            NightGarrison x = Cities.wax(Cities.darkened(Cities.holding(), room), 9, room, light);
+            x.mend(0, 5, 1);
+            due.is("later(1, " + room + ", 0), a light beside", x.later(1, room, 0), 0);
+            due.is("later(1, " + room + ", 1), a light beside", x.later(1, room, 1), 0);
+            due.is("hour()", x.hour(), 0);
+            due.is("of(" + room + ", 0): its WAX is 0", x.of(room, 0), 0);
+            due.is("of(" + light + ", 0): the light has burnt", x.of(light, 0), 8);
+            due.is("led(2)", x.led(2), 1);
+        }
+    }
+
     private static void burning() {
         due.sentence("WAX of each LIT one is 1, and DRAUGHT by 5 (cut), less (0 at least)");
         for (int draught = 0; draught < 10; draught++) {
@@ -272,6 +287,9 @@ public final class CitySentencesTest {
         due.is("later(2, 14, 1)", x.later(2, 14, 1), 0);
         due.is("later(3, 14, 0): it falls", x.later(3, 14, 0), 1);
         due.is("later(3, 14, 1)", x.later(3, 14, 1), 0);
+        NightGarrison told = Cities.wax(Cities.under("w?9"), 1, 14);
+        told.mend(14, 1, 9);
+        due.is("dark(9, 0): a law that asks for WAX finds 0, not below", told.dark(9, 0), 0);
     }
 
     private static void theClock() {

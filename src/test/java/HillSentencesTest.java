@@ -251,6 +251,11 @@ public final class HillSentencesTest {
         x.mend(20, 0, 20);
         due.is("byTurns(221, 0): not in another row", x.byTurns(221, 0), 30);
         due.is("byTurns(521, 0): there is none in the last row but the stub", x.byTurns(521, 0), 30);
+        NightGarrison wax = Cities.wax(Cities.under("9+w*9"), 20, 12);
+        due.is("byTurns(221, 0): the law of a WAX of 0", wax.byTurns(221, 0), 35);
+        NightGarrison below = Cities.wax(Cities.under("w<0?9"), 20, 12);
+        below.mend(12, 1, 1);
+        due.is("byTurns(221, 0): 0, not below", below.byTurns(221, 0), 0);
         NightGarrison worse = Cities.wax(Cities.under("l*9"), 20, 12, 13, 14, 15, 16, 17);
         due.is("byTurns(221, 0): each light makes two fall, so it does nothing", worse.byTurns(221, 0), 12);
         NightGarrison dark = Cities.wax(Cities.allDarkBut(Cities.holding(), 20), 9, 12, 13, 20);
@@ -390,6 +395,8 @@ public final class HillSentencesTest {
                 due.is("drawn(" + seed + ", " + (10100 + moths) + ", -1)", x.drawn(seed, 10100 + moths, -1), MOTH[1] < moths ? 1 : 0);
             }
         }
+        due.is("drawn under a law that asks for WAX of 0", lights("9+w*9").drawn(5, 10112, -1), 1);
+        due.is("drawn under a law that asks for WAX below 0", lights("w<0?9").drawn(5, 10112, -1), 0);
         NightGarrison last = lights("h=11?9");
         for (int moths = 0; moths <= 12; moths++) {
             due.is("drawn, 30 nights of 12 hours, MOTHS " + moths, last.drawn(5, 301200 + moths, -1), visited(5, 30, 12, moths));

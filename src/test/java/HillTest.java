@@ -161,11 +161,7 @@ public final class HillTest {
 
     private static void drawn() {
         due.part("21 drawn");
-        NightGarrison x = new NightGarrison();
-        Due.law(x, "9");
-        for (int r = 0; r < 36; r++) {
-            x.mend(r, 0, 99);
-        }
+        NightGarrison x = allLit();
         int seed = 2026;
         int z = seed * 1103515245 + 12345;
         int moth = (z >>> 8) % 36;
@@ -176,7 +172,7 @@ public final class HillTest {
         due.is("drawn: below MOTHS", x.drawn(seed, 10100 + count + 1, -1), 1);
         due.is("drawn: not below MOTHS", x.drawn(seed, 10100 + count, -1), 0);
         due.is("drawn: never", x.drawn(seed, 302400, -1), 0);
-        eachDraw(x);
+        eachDraw();
         int second = z * 1103515245 + 12345;
         int other = (second >>> 8) % 36;
         due.is("drawn: two nights, the city as now, the draws go on", x.drawn(seed, 20112, -1), 2);
@@ -189,8 +185,18 @@ public final class HillTest {
         due.is("drawn: hours pass in each night", x.drawn(5, 301200, -1), 30 * x.dark(12, 0));
     }
 
-    private static void eachDraw(NightGarrison x) {
+    private static NightGarrison allLit() {
+        NightGarrison x = new NightGarrison();
+        Due.law(x, "9");
+        for (int r = 0; r < 36; r++) {
+            x.mend(r, 0, 99);
+        }
+        return x;
+    }
+
+    private static void eachDraw() {
         for (int seed = -20; seed < 20; seed++) {
+            NightGarrison x = allLit();
             int z = seed * 1103515245 + 12345;
             for (int moths = 0; moths <= 12; moths++) {
                 int comes = (z >>> 16) % 12 < moths ? 1 : 0;

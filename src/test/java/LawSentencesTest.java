@@ -7,12 +7,15 @@ public final class LawSentencesTest {
         feed();
         linesParted();
         line();
+        firstOfALine();
         joining();
         comparing();
         operands();
         blanks();
         names();
         darkAndLitCounted();
+        askedInManyStates();
+        askedOfWax();
         openAtOnce();
         wrapping();
         dividing();
@@ -132,6 +135,28 @@ public final class LawSentencesTest {
         fault("d??l", 2);
         fault("d?l?g", 3);
         fault("(d?l)", 2);
+    }
+
+    /** A first E that is no more than a NAME or a number, at 0 and above. */
+    private static void firstOfALine() {
+        String[] names = {"g", "c", "w", "h"};
+        int[] what = {1, 2, 0, 6};
+        for (int i = 0; i < 4; i++) {
+            NightGarrison x = Cities.under(names[i] + "?6;5");
+            due.is("press(0) by " + names[i] + "?6;5 at 0", x.press(0), 5);
+            x.mend(0, what[i], 1);
+            due.is("press(0) by " + names[i] + "?6;5 at 1", x.press(0), 6);
+        }
+        NightGarrison d = Cities.under("d?6;5");
+        due.is("press(14) by d?6;5 at 0", d.press(14), 5);
+        due.is("press(0) by d?6;5 at 2", d.press(0), 6);
+        NightGarrison l = Cities.wax(Cities.under("l?6;5"), 1, 0);
+        due.is("press(0) by l?6;5 at 0", l.press(0), 5);
+        due.is("press(1) by l?6;5 at 1", l.press(1), 6);
+        gives("0?6;5", 5);
+        gives("1?6;5", 6);
+        gives("2?6;5", 6);
+        gives("9999?6;5", 6);
     }
 
     private static void joining() {
@@ -309,6 +334,67 @@ public final class LawSentencesTest {
         due.is("press(14) by l+d: DARK itself", self.press(14), 0);
     }
 
+    private static int pressed(int d, int l, int g, int c, int w, int h) {
+        return (d * 7 + l * 3 + g * 9 + c * 5 + w * 4 + h * 2 + d * l + g * h + c * h) % 10;
+    }
+
+    private static final String MANY = "(d*7+l*3+g*9+c*5+w*4+h*2+d*l+g*h+c*h)%10";
+
+    /** One object is asked in one state behind the other: no answer may be that of another state. */
+    private static void askedInManyStates() {
+        for (int from = 0; from < 12; from += 6) {
+            NightGarrison x = Cities.under(MANY);
+            for (int h = from; h < from + 7; h++) {
+                x.mend(0, 6, h % 12);
+                for (int i = 0; i < 20; i++) {
+                    int g = i < 10 ? i : 19 - i;
+                    int c = i < 10 ? 0 : 1;
+                    x.mend(14, i == 10 ? 2 : 1, i == 10 ? 1 : g);
+                    due.is("press(14), g " + g + ", c " + c + ", h " + h % 12, x.press(14), pressed(0, 0, g, c, 0, h % 12));
+                }
+                x.mend(14, 2, 0);
+            }
+        }
+        askedBetween(1, 10);
+        askedBetween(2, 2);
+        askedBetween(6, 12);
+    }
+
+    /** Of room 14 with each number of DARK and LIT ones beside it, and each value of DRAUGHT, CHILD or HOUR. */
+    private static void askedBetween(int what, int values) {
+        int[] beside = {8, 13, 15, 20};
+        NightGarrison x = Cities.under(MANY);
+        for (int dark = 0; dark <= 4; dark++) {
+            for (int lit = 0; dark + lit <= 4; lit++) {
+                for (int v = 0; v < values; v++) {
+                    x.mend(what == 6 ? 0 : 14, what, v);
+                    int want = pressed(dark, lit, what == 1 ? v : 0, what == 2 ? v : 0, 0, what == 6 ? v : 0);
+                    due.is("press(14), d " + dark + ", l " + lit + ", what " + what + " is " + v, x.press(14), want);
+                }
+                if (dark + lit < 4) {
+                    x.mend(beside[3 - lit], 0, 1);
+                }
+            }
+            Cities.wax(x, 0, beside);
+            if (dark < 4) {
+                x.mend(beside[dark], 3, 1);
+            }
+        }
+    }
+
+    private static void askedOfWax() {
+        NightGarrison x = Cities.under("9-w");
+        for (int w : new int[] {0, 1, 2, 1, 0, 9, 0}) {
+            x.mend(14, 0, w);
+            due.is("press(14) by 9-w, WAX " + w, x.press(14), 9 - w);
+        }
+        Due.law(x, "w+3");
+        for (int w : new int[] {1, 0, 1, 6, 0}) {
+            x.mend(14, 0, w);
+            due.is("press(14) by w+3, WAX " + w, x.press(14), w + 3);
+        }
+    }
+
     private static void openAtOnce() {
         due.sentence("At most 6 of ( ! - ahead of an O are open at once.");
         gives("((((((5))))))", 5);
@@ -333,6 +419,13 @@ public final class LawSentencesTest {
         fault("((((((", 6);
         fault("((((((5", 7);
         fault("((((((5)))))", 12);
+        gives("((((((1))))))?((((((5))))))", 5);
+        gives("0?1;!!!!!!0?1;((((((5))))))", 5);
+        fault("1?(((((((5)))))))", 8);
+        fault("(((((((1)))))))?5", 6);
+        fault("1?-------5", 8);
+        fault("1;!!!!!!!5", 8);
+        fault("0?1;1?(((((((5", 12);
     }
 
     private static void wrapping() {
@@ -401,6 +494,15 @@ public final class LawSentencesTest {
         gives("!5", 0);
         gives("!(0-5)", 0);
         gives("(2<3)+(3=3)+(4>3)+(1|0)+(1&1)+!0", 6);
+        gives("5+(3<2)", 5);
+        gives("5+(2=3)", 5);
+        gives("5+(2>3)", 5);
+        gives("5+(0|0)", 5);
+        gives("5+(1&0)", 5);
+        gives("5+(0&1)", 5);
+        gives("5+!7", 5);
+        gives("5+(2|0-1)*2", 7);
+        gives("5-(3>2)*2", 3);
     }
 
     /** What stands where it can't count is worked out, too: it may fail to be worked out nowhere. */

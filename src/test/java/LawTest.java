@@ -203,6 +203,9 @@ public final class LawTest {
         Random random = new Random(5);
         NightGarrison x = furnished();
         for (int i = 0; i < 60000; i++) {
+            if (i % 4 == 0) {
+                x = furnished();
+            }
             String text = Texts.text(random);
             if (text.length() > 120) {
                 continue;

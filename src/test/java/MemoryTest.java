@@ -3,7 +3,7 @@ import java.lang.management.ManagementFactory;
 /** All that a run needs is made with the object: even the dearest calls make nothing, and they end soon. */
 public final class MemoryTest {
     private static final Due due = new Due();
-    private static final int ROUNDS = 12;
+    private static final int ROUNDS = 2;
 
     public static void main(String[] args) {
         var bean = (com.sun.management.ThreadMXBean) ManagementFactory.getThreadMXBean();

@@ -5,9 +5,15 @@ public final class RandomTest {
     private static final Due due = new Due();
     private static final int[] ODD = {-1, 0, 1, 2, 3, 4, 5, 6, 7, 8, 12, 13, 24, 25, 35, 36, 48, 49, 99, 100,
         Integer.MIN_VALUE, Integer.MAX_VALUE};
+    /** So many calls may an object be used for. */
+    private static final int MOST_CALLS = 512;
+    /** What look() asks, and what one step and the glance behind it may ask at most. */
+    private static final int LOOK = 175;
+    private static final int DEAREST_STEP = 110;
     private final Random random;
     private final NightGarrison x = new NightGarrison();
     private final PlainGarrison p = new PlainGarrison();
+    private int calls = 0;
 
     private RandomTest(int seed) {
         random = new Random(seed);
@@ -15,7 +21,7 @@ public final class RandomTest {
     }
 
     public static void main(String[] args) {
-        int runs = args.length > 0 ? Integer.parseInt(args[0]) : 60;
+        int runs = args.length > 0 ? Integer.parseInt(args[0]) : 300;
         int first = args.length > 1 ? Integer.parseInt(args[1]) : 0;
         for (int seed = first; seed < first + runs; seed++) {
             new RandomTest(seed).run();
@@ -24,14 +30,13 @@ public final class RandomTest {
     }
 
     private void run() {
-        int calls = 0;
         if (random.nextInt(4) > 0) {
-            calls += furnish();
+            furnish();
         }
-        for (; calls < 380; calls++) {
+        for (int step = 1; calls < MOST_CALLS - LOOK - DEAREST_STEP; step++) {
             int kind = random.nextInt(100);
-            if (kind < 5) {
-                calls += law();
+            if (kind < 4) {
+                law();
             } else if (kind < 40) {
                 change();
             } else if (kind < 62) {
@@ -39,17 +44,18 @@ public final class RandomTest {
             } else if (kind < 66) {
                 dear();
             } else if (kind < 72) {
-                calls += hill();
-            } else if (kind < 85) {
+                hill();
+            } else if (kind < 84) {
                 acts();
             } else {
                 shelves();
             }
-            if (calls % 25 == 0) {
-                look();
+            if (step % 25 == 0) {
+                glance();
             }
         }
         look();
+        due.isTrue("a run of at most 512 calls, not " + calls, calls <= MOST_CALLS);
     }
 
     private int upTo(int n) {
@@ -62,6 +68,7 @@ public final class RandomTest {
     }
 
     private void is(String call, long got, long want) {
+        calls++;
         due.is(call, got, want);
     }
 
@@ -69,7 +76,7 @@ public final class RandomTest {
         is("mend(" + number + ", " + what + ", " + v + ")", x.mend(number, what, v), p.mend(number, what, v));
     }
 
-    private int furnish() {
+    private void furnish() {
         int lights = upTo(14), draughts = upTo(14), children = upTo(8), darks = upTo(5);
         for (int i = 0; i < lights; i++) mend(upTo(35), 0, 1 + upTo(random.nextBoolean() ? 5 : 20));
         for (int i = 0; i < draughts; i++) mend(upTo(35), 1, upTo(9));
@@ -77,10 +84,9 @@ public final class RandomTest {
         for (int i = 0; i < darks; i++) mend(upTo(35), 3, 1);
         mend(0, 4, 1 + upTo(3));
         mend(0, 5, 1 + upTo(3));
-        return lights + draughts + children + darks + 2;
     }
 
-    private int law() {
+    private void law() {
         String text;
         do {
             text = Texts.text(random);
@@ -89,7 +95,6 @@ public final class RandomTest {
             is("feed", x.feed(text.charAt(i)), p.feed(text.charAt(i)));
         }
         is("law() of " + text, x.law(), p.law());
-        return text.length();
     }
 
     private void change() {
@@ -156,7 +161,7 @@ public final class RandomTest {
     }
 
     /** A row that tells what will be, or nearly. */
-    private int hill() {
+    private void hill() {
         int n = upTo(8), shelf = upTo(5);
         is("row", x.row(shelf, 3, n), p.row(shelf, 3, n));
         int wrong = random.nextInt(3) == 0 ? upTo(8) : 99;
@@ -168,7 +173,6 @@ public final class RandomTest {
         is("judge(" + other + ")", x.judge(other), p.judge(other));
         is("draughts(" + other + ", " + r + ", " + what + ")", x.draughts(other, r, what), p.draughts(other, r, what));
         is("holds(" + other + ", " + what + ")", x.holds(other, what), p.holds(other, what));
-        return n + 4;
     }
 
     private void acts() {
@@ -198,15 +202,27 @@ public final class RandomTest {
         }
     }
 
+    private void glance() {
+        is("map(0)", x.map(0), p.map(0));
+        int what = of(0, 6);
+        is("count(" + what + ")", x.count(what), p.count(what));
+        is("led(" + what + ")", x.led(what), p.led(what));
+    }
+
     private void look() {
-        for (int i = -1; i < 7; i++) {
+        glance();
+        for (int i = 0; i < 6; i++) {
             is("count(" + i + ")", x.count(i), p.count(i));
             is("led(" + i + ")", x.led(i), p.led(i));
         }
-        for (int what = -1; what < 9; what++) {
-            for (int r = -1; r < 37; r++) {
+        for (int r = 0; r < 36; r++) {
+            for (int what = 0; what < (r == 0 ? 7 : 4); what++) {
                 is("of(" + r + ", " + what + ")", x.of(r, what), p.of(r, what));
             }
         }
+        int r = of(0, 35);
+        int what = of(0, 8);
+        is("of(" + r + ", " + what + ")", x.of(r, what), p.of(r, what));
+        is("of(" + r + ", 7)", x.of(r, 7), p.of(r, 7));
     }
 }

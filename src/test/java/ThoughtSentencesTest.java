@@ -16,6 +16,7 @@ public final class ThoughtSentencesTest {
         stubsWhere();
         stubsWax();
         stubsFewest();
+        stubsAtTheEnds();
         stubsTold();
         stubsNot();
         wayIn();
@@ -26,6 +27,7 @@ public final class ThoughtSentencesTest {
         wrongWays();
         roundFrom();
         roundSteps();
+        roundBetweenAll();
         roundLights();
         roundFewest();
         wrongRounds();
@@ -258,6 +260,33 @@ public final class ThoughtSentencesTest {
         }
     }
 
+    /** The rooms behind which the search might end too early, or not begin early enough. */
+    private static void stubsAtTheEnds() {
+        NightGarrison last = Cities.under("g?9");
+        last.mend(35, 1, 1);
+        due.is("stubs(0, 1, 1)", last.stubs(0, 1, 1), 1);
+        due.is("stubs(1, 1, 1): the last room alone falls", last.stubs(1, 1, 1), 0);
+        due.is("stubs(1, 1, 2)", last.stubs(1, 1, 2), 35);
+        due.is("stubs(2, 1, 2)", last.stubs(2, 1, 2), 35);
+        last.mend(34, 1, 1);
+        due.is("stubs(2, 1, 1)", last.stubs(2, 1, 1), 0);
+        due.is("stubs(2, 1, 2)", last.stubs(2, 1, 2), 34 * 36 + 35);
+        NightGarrison first = Cities.under("g?9");
+        first.mend(0, 1, 1);
+        due.is("stubs(1, 1, 1): the first room alone falls", first.stubs(1, 1, 1), 0);
+        due.is("stubs(1, 1, 2)", first.stubs(1, 1, 2), 0);
+        due.is("stubs(2, 1, 2)", first.stubs(2, 1, 2), 1);
+        first.mend(1, 1, 1);
+        due.is("stubs(2, 1, 1)", first.stubs(2, 1, 1), 0);
+        NightGarrison all = Cities.allDarkBut(new NightGarrison());
+        for (int room = 0; room < 36; room++) {
+            all.mend(room, 2, 1);
+        }
+        due.is("stubs(0, 12, 0): all, each with a CHILD", all.stubs(0, 12, 0), 36);
+        due.is("stubs(0, 12, 1)", all.stubs(0, 12, 1), 36);
+        due.is("stubs(0, 12, 2)", all.stubs(0, 12, 2), -9);
+    }
+
     private static void stubsTold() {
         due.sentence("how many with a CHILD; of all; which ROOMS (36 times the lesser and the greater one; "
             + "one alone: that; none: -9; of like ones the least)");
@@ -470,6 +499,22 @@ public final class ThoughtSentencesTest {
         }
     }
 
+    /** From each room to each other one: one step lights it if it is BESIDE, or the same. */
+    private static void roundBetweenAll() {
+        for (int target = 0; target < 36; target++) {
+            NightGarrison x = Cities.allDarkBut(Cities.falling(), target);
+            for (int from = 0; from < 36; from++) {
+                boolean reached = from == target || Cities.areBeside(from, target);
+                due.is("round(" + from + ", 1, -1) to " + target, x.round(from, 1, -1), reached ? 35 : 36);
+                if (reached) {
+                    int step = target - from;
+                    int want = step == -6 ? 0 : step == 1 ? 1 : step == 6 ? 2 : step == -1 ? 3 : 4;
+                    due.is("round(" + from + ", 1, 0) to " + target, x.round(from, 1, 0), want);
+                }
+            }
+        }
+    }
+
     private static void roundLights() {
         due.sentence("and lights where one is, if it is not DARK (WAX 6, if it had less); then the hour passes");
         NightGarrison x = Cities.falling();
@@ -518,6 +563,11 @@ public final class ThoughtSentencesTest {
         due.is("round(6, 1, -1): left of 6 is not 5", left.round(6, 1, -1), 36);
         due.is("round(12, 1, -1): left of 12 is not 11", left.round(12, 1, -1), 36);
         due.is("round(4, 1, -1)", left.round(4, 1, -1), 35);
+        NightGarrison all = Cities.allDarkBut(new NightGarrison());
+        due.is("round(30, 2, 0): all are DARK", all.round(30, 2, 0), 0);
+        for (int k = 0; k < 4; k++) {
+            due.is("round(0, 4, " + k + "): all are DARK, all are alike", all.round(0, 4, k), 1);
+        }
         NightGarrison last = Cities.allDarkBut(Cities.under("h=1?9"), 13, 15);
         due.is("round(14, 2, -1): both can be lit in time", last.round(14, 2, -1), 35);
         due.is("round(13, 2, 0): of like ones the first", last.round(13, 2, 0), 0);
