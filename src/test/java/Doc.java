@@ -9,9 +9,10 @@ final class Doc {
     private Doc() {
     }
 
+    /** Empty where the document is not at hand: then the answers are tested all the same, but not the words. */
     static String text() {
         try {
-            return Files.readString(FILE);
+            return Files.isReadable(FILE) ? Files.readString(FILE) : "";
         } catch (IOException e) {
             return "";
         }

